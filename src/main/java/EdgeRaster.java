@@ -138,7 +138,7 @@ public final class EdgeRaster {
             }
             start = windowX;
         }
-        // Below the last row, so that a further call finds none again.
+        // Below the last row, so that a further call need not look through the rows again.
         onPlace = false;
         lastY = windowY + windowHigh;
         return NONE;

@@ -1,3 +1,4 @@
+import java.util.function.IntConsumer;
 import java.util.function.LongSupplier;
 
 /** Compares answers with the ones that are due, and counts those that are not. */
@@ -6,6 +7,10 @@ final class Check {
 
     void due(String call, long want, LongSupplier got) {
         compare(call, Long.toString(want), answer(got));
+    }
+
+    void dueDone(String call, Runnable got) {
+        compare(call, "0", answer(asSupplier(got)));
     }
 
     void dueArgument(String call, Runnable got) {
@@ -18,6 +23,16 @@ final class Check {
 
     void dueState(String call, LongSupplier got) {
         compare(call, "IllegalStateException", answer(got));
+    }
+
+    /** The least and the greatest number are taken; the first ones beyond, and the ends of the ints, are refused. */
+    void dueRange(String what, int least, int most, IntConsumer call) {
+        dueDone(what + " " + least, () -> call.accept(least));
+        dueDone(what + " " + most, () -> call.accept(most));
+        int[] beyond = {least - 1, most + 1, Integer.MIN_VALUE, Integer.MAX_VALUE};
+        for (int number : beyond) {
+            dueArgument(what + " " + number, () -> call.accept(number));
+        }
     }
 
     void compare(String call, String want, String got) {

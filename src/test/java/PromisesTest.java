@@ -3,8 +3,8 @@ import java.util.Arrays;
 /** Each promise of DOC.md: ordinary inputs, the edges that the document names, and wrong inputs. */
 public final class PromisesTest {
     private static final Check CHECK = new Check();
-    private static final int FAR = 16383;
-    private static final int BACK = -16384;
+    private static final int FAR = Scenes.FAR;
+    private static final int BACK = Scenes.BACK;
 
     public static void main(String[] args) {
         newObject();
@@ -37,29 +37,10 @@ public final class PromisesTest {
         CHECK.end();
     }
 
-    private static EdgeRaster triangle(int x0, int y0, int x1, int y1, int x2, int y2) {
-        EdgeRaster r = new EdgeRaster();
-        r.corner(0, x0, y0, 0, 1);
-        r.corner(1, x1, y1, 0, 1);
-        r.corner(2, x2, y2, 0, 1);
-        return r;
-    }
-
-    /** Places (0,0) (1,0) (2,0) (0,1) (1,1) (0,2); the long edge goes through (3,0) (2,1) .. and is not theirs. */
-    private static EdgeRaster small() {
-        EdgeRaster r = triangle(0, 0, 64, 0, 0, 64);
-        r.window(0, 0, 8, 8);
-        return r;
-    }
-
-    private static long covered(EdgeRaster r, int x, int y) {
-        return r.covers(x, y) ? 1 : 0;
-    }
-
     private static void newObject() {
         EdgeRaster r = new EdgeRaster();
         CHECK.due("P1 area", 0, r::area);
-        CHECK.due("P1 covers", 0, () -> covered(r, 0, 0));
+        CHECK.due("P1 covers", 0, () -> Scenes.covered(r, 0, 0));
         CHECK.due("P1 many", 0, r::many);
         CHECK.dueState("P1 next without walk", r::next);
         CHECK.dueState("P1 weight without walk", () -> r.weight(0));
@@ -126,7 +107,7 @@ public final class PromisesTest {
     }
 
     private static void cornerEndsWalk() {
-        EdgeRaster r = small();
+        EdgeRaster r = Scenes.small();
         r.walk();
         r.next();
         r.corner(0, 0, 0, 0, 1);
@@ -137,7 +118,7 @@ public final class PromisesTest {
     }
 
     private static void valueLimits() {
-        EdgeRaster r = small();
+        EdgeRaster r = Scenes.small();
         int[][] wrong = {
             {-1, 0}, {3, 0}, {Integer.MIN_VALUE, 0}, {Integer.MAX_VALUE, 0},
             {0, -1}, {0, 28}, {2, Integer.MIN_VALUE}, {2, Integer.MAX_VALUE}, {3, 28},
@@ -160,7 +141,7 @@ public final class PromisesTest {
     }
 
     private static void valueEndsWalk() {
-        EdgeRaster r = small();
+        EdgeRaster r = Scenes.small();
         r.walk();
         r.next();
         r.value(0, 0, 0);
@@ -171,7 +152,7 @@ public final class PromisesTest {
     }
 
     private static void windowLimits() {
-        EdgeRaster r = triangle(0, 0, FAR, 0, 0, FAR);
+        EdgeRaster r = Scenes.triangle(0, 0, FAR, 0, 0, FAR);
         int least = Integer.MIN_VALUE;
         int most = Integer.MAX_VALUE;
         int[][] wrong = {
@@ -190,7 +171,7 @@ public final class PromisesTest {
         }
         r.window(1023, 1023, 64, 64);
         CHECK.due("P4 many in the last window", 0, r::many);
-        EdgeRaster last = triangle(FAR, FAR, BACK, FAR, FAR, BACK);
+        EdgeRaster last = Scenes.triangle(FAR, FAR, BACK, FAR, FAR, BACK);
         last.window(1023, 1023, 64, 64);
         CHECK.due("P4 many of the last place", 1, last::many);
         last.walk();
@@ -198,7 +179,7 @@ public final class PromisesTest {
     }
 
     private static void windowEndsWalk() {
-        EdgeRaster r = small();
+        EdgeRaster r = Scenes.small();
         r.walk();
         r.next();
         r.window(0, 0, 8, 8);
@@ -209,33 +190,35 @@ public final class PromisesTest {
     }
 
     private static void areaAndTurning() {
-        CHECK.due("P5 area", 4096, () -> triangle(0, 0, 64, 0, 0, 64).area());
-        CHECK.due("P5 area turned", -4096, () -> triangle(0, 0, 0, 64, 64, 0).area());
-        CHECK.due("P5 area of a line", 0, () -> triangle(0, 0, 10, 10, 30, 30).area());
-        CHECK.due("P5 area of a point", 0, () -> triangle(7, 7, 7, 7, 7, 7).area());
-        CHECK.due("P5 area away from (0, 0)", 13 * 17 - 5 * 3, () -> triangle(100, -50, 113, -47, 105, -33).area());
-        CHECK.due("P5 greatest", 32767L * 32767L, () -> triangle(BACK, BACK, FAR, BACK, FAR, FAR).area());
-        CHECK.due("P5 least", -32767L * 32767L, () -> triangle(BACK, BACK, FAR, FAR, FAR, BACK).area());
+        CHECK.due("P5 area", 4096, () -> Scenes.triangle(0, 0, 64, 0, 0, 64).area());
+        CHECK.due("P5 area turned", -4096, () -> Scenes.triangle(0, 0, 0, 64, 64, 0).area());
+        CHECK.due("P5 area of a line", 0, () -> Scenes.triangle(0, 0, 10, 10, 30, 30).area());
+        CHECK.due("P5 area of a point", 0, () -> Scenes.triangle(7, 7, 7, 7, 7, 7).area());
+        CHECK.due("P5 area away from (0, 0)", 13 * 17 - 5 * 3, () -> Scenes.triangle(100, -50, 113, -47, 105, -33).area());
+        CHECK.due("P5 greatest", 32767L * 32767L, () -> Scenes.triangle(BACK, BACK, FAR, BACK, FAR, FAR).area());
+        CHECK.due("P5 least", -32767L * 32767L, () -> Scenes.triangle(BACK, BACK, FAR, FAR, FAR, BACK).area());
     }
 
     private static void coversLimits() {
-        EdgeRaster r = triangle(BACK, BACK, FAR, BACK, BACK, FAR);
+        EdgeRaster r = Scenes.triangle(BACK, BACK, FAR, BACK, BACK, FAR);
         int[] wrong = {-1025, 2048, Integer.MIN_VALUE, Integer.MAX_VALUE};
         for (int w : wrong) {
-            CHECK.dueArgument("P6 covers(" + w + ", 0)", () -> covered(r, w, 0));
-            CHECK.dueArgument("P6 covers(0, " + w + ")", () -> covered(r, 0, w));
+            CHECK.dueArgument("P6 covers(" + w + ", 0)", () -> Scenes.covered(r, w, 0));
+            CHECK.dueArgument("P6 covers(0, " + w + ")", () -> Scenes.covered(r, 0, w));
         }
-        CHECK.due("P6 covers(-1024, -1024)", 1, () -> covered(r, -1024, -1024));
-        CHECK.due("P6 covers(1022, -1024)", 1, () -> covered(r, 1022, -1024));
-        CHECK.due("P6 covers(2047, -1024)", 0, () -> covered(r, 2047, -1024));
-        CHECK.due("P6 covers(-1024, 2047)", 0, () -> covered(r, -1024, 2047));
-        CHECK.due("P6 covers(2047, 2047)", 0, () -> covered(r, 2047, 2047));
-        EdgeRaster slanted = triangle(BACK, BACK, FAR, BACK + 1, BACK + 1, FAR);
-        CHECK.due("P6 covers far off", 0, () -> covered(slanted, 2047, 2047));
-        CHECK.due("P6 covers far right", 0, () -> covered(slanted, 2047, -1024));
+        CHECK.due("P6 covers(-1024, -1024)", 1, () -> Scenes.covered(r, -1024, -1024));
+        CHECK.due("P6 covers(1022, -1024)", 1, () -> Scenes.covered(r, 1022, -1024));
+        CHECK.due("P6 covers(2047, -1024)", 0, () -> Scenes.covered(r, 2047, -1024));
+        CHECK.due("P6 covers(-1024, 2047)", 0, () -> Scenes.covered(r, -1024, 2047));
+        CHECK.due("P6 covers(2047, 2047)", 0, () -> Scenes.covered(r, 2047, 2047));
+        EdgeRaster slanted = Scenes.triangle(BACK, BACK, FAR, BACK + 1, BACK + 1, FAR);
+        CHECK.due("P6 covers far off", 0, () -> Scenes.covered(slanted, 2047, 2047));
+        CHECK.due("P6 covers far right", 0, () -> Scenes.covered(slanted, 2047, -1024));
         // The greatest weights there are, above and below 0, come close to what an int can hold.
-        CHECK.due("P6 covers beyond the greatest edge", 0, () -> covered(triangle(BACK, FAR, FAR, BACK, BACK, BACK), 2047, 2047));
-        CHECK.due("P6 covers beyond it, turned", 0, () -> covered(triangle(FAR, BACK, BACK, FAR, BACK, BACK), 2047, 2047));
+        CHECK.due("P6 covers beyond the greatest edge", 0,
+                () -> Scenes.covered(Scenes.triangle(BACK, FAR, FAR, BACK, BACK, BACK), 2047, 2047));
+        CHECK.due("P6 covers beyond it, turned", 0,
+                () -> Scenes.covered(Scenes.triangle(FAR, BACK, BACK, FAR, BACK, BACK), 2047, 2047));
     }
 
     private static void coversEdges() {
@@ -245,37 +228,37 @@ public final class PromisesTest {
             for (int turn = 0; turn < 3; turn++) {
                 EdgeRaster upper = placed(corners[0], turn, turned == 1);
                 EdgeRaster lower = placed(corners[1], turn, turned == 1);
-                CHECK.due("P6 top edge", 1, () -> covered(upper, 1, 0));
-                CHECK.due("P6 corner of top and left", 1, () -> covered(upper, 0, 0));
-                CHECK.due("P6 left slanted edge", 1, () -> covered(upper, 2, 2));
-                CHECK.due("P6 corner of top and right", 0, () -> covered(upper, 4, 0));
-                CHECK.due("P6 right edge", 0, () -> covered(upper, 4, 2));
-                CHECK.due("P6 right slanted edge", 0, () -> covered(lower, 2, 2));
-                CHECK.due("P6 left edge", 1, () -> covered(lower, 0, 2));
-                CHECK.due("P6 bottom edge", 0, () -> covered(lower, 2, 4));
-                CHECK.due("P6 corner of left and bottom", 0, () -> covered(lower, 0, 4));
-                CHECK.due("P6 corner of left and slanted", 0, () -> covered(lower, 0, 0));
-                CHECK.due("P6 inside", 1, () -> covered(upper, 3, 1));
-                CHECK.due("P6 outside", 0, () -> covered(upper, 1, 3));
+                CHECK.due("P6 top edge", 1, () -> Scenes.covered(upper, 1, 0));
+                CHECK.due("P6 corner of top and left", 1, () -> Scenes.covered(upper, 0, 0));
+                CHECK.due("P6 left slanted edge", 1, () -> Scenes.covered(upper, 2, 2));
+                CHECK.due("P6 corner of top and right", 0, () -> Scenes.covered(upper, 4, 0));
+                CHECK.due("P6 right edge", 0, () -> Scenes.covered(upper, 4, 2));
+                CHECK.due("P6 right slanted edge", 0, () -> Scenes.covered(lower, 2, 2));
+                CHECK.due("P6 left edge", 1, () -> Scenes.covered(lower, 0, 2));
+                CHECK.due("P6 bottom edge", 0, () -> Scenes.covered(lower, 2, 4));
+                CHECK.due("P6 corner of left and bottom", 0, () -> Scenes.covered(lower, 0, 4));
+                CHECK.due("P6 corner of left and slanted", 0, () -> Scenes.covered(lower, 0, 0));
+                CHECK.due("P6 inside", 1, () -> Scenes.covered(upper, 3, 1));
+                CHECK.due("P6 outside", 0, () -> Scenes.covered(upper, 1, 3));
             }
         }
-        CHECK.due("P6 a line covers nothing", 0, () -> covered(triangle(8, 8, 40, 40, 24, 24), 1, 1));
-        CHECK.due("P6 a point covers nothing", 0, () -> covered(triangle(8, 8, 8, 8, 8, 8), 0, 0));
+        CHECK.due("P6 a line covers nothing", 0, () -> Scenes.covered(Scenes.triangle(8, 8, 40, 40, 24, 24), 1, 1));
+        CHECK.due("P6 a point covers nothing", 0, () -> Scenes.covered(Scenes.triangle(8, 8, 8, 8, 8, 8), 0, 0));
     }
 
     private static EdgeRaster placed(int[] xy, int turn, boolean turned) {
         int a = turn % 3;
         int b = (turn + (turned ? 2 : 1)) % 3;
         int c = (turn + (turned ? 1 : 2)) % 3;
-        return triangle(xy[2 * a], xy[2 * a + 1], xy[2 * b], xy[2 * b + 1], xy[2 * c], xy[2 * c + 1]);
+        return Scenes.triangle(xy[2 * a], xy[2 * a + 1], xy[2 * b], xy[2 * b + 1], xy[2 * c], xy[2 * c + 1]);
     }
 
     private static void coversOutsideWindow() {
-        EdgeRaster r = triangle(-160, -160, 160, -160, -160, 160);
+        EdgeRaster r = Scenes.triangle(-160, -160, 160, -160, -160, 160);
         r.window(500, 500, 1, 1);
-        CHECK.due("P6 covers(-5, -5) outside of the window", 1, () -> covered(r, -5, -5));
-        CHECK.due("P6 covers(0, -1) on the slanted edge", 0, () -> covered(r, 0, -1));
-        CHECK.due("P6 covers(-1, -1)", 1, () -> covered(r, -1, -1));
+        CHECK.due("P6 covers(-5, -5) outside of the window", 1, () -> Scenes.covered(r, -5, -5));
+        CHECK.due("P6 covers(0, -1) on the slanted edge", 0, () -> Scenes.covered(r, 0, -1));
+        CHECK.due("P6 covers(-1, -1)", 1, () -> Scenes.covered(r, -1, -1));
     }
 
     /** A fan of triangles round a middle: each place inside is covered by just one. */
@@ -288,8 +271,8 @@ public final class PromisesTest {
                 int[] a = round[k];
                 int[] b = round[(k + 1) % round.length];
                 EdgeRaster r = k % 2 == 0
-                        ? triangle(middle[0], middle[1], a[0], a[1], b[0], b[1])
-                        : triangle(a[0], a[1], middle[0], middle[1], b[0], b[1]);
+                        ? Scenes.triangle(middle[0], middle[1], a[0], a[1], b[0], b[1])
+                        : Scenes.triangle(a[0], a[1], middle[0], middle[1], b[0], b[1]);
                 r.window(0, 0, 17, 17);
                 r.walk();
                 for (int place = r.next(); place != EdgeRaster.NONE; place = r.next()) {
@@ -306,7 +289,7 @@ public final class PromisesTest {
     }
 
     private static void manyCounts() {
-        EdgeRaster r = small();
+        EdgeRaster r = Scenes.small();
         CHECK.due("P7 many", 6, r::many);
         r.window(1, 0, 2, 2);
         CHECK.due("P7 many in a part", 3, r::many);
@@ -315,14 +298,14 @@ public final class PromisesTest {
         r.window(5, 5, 3, 3);
         CHECK.due("P7 many beside it", 0, r::many);
         CHECK.due("P7 many of the other half", 10, () -> {
-            EdgeRaster other = triangle(64, 64, 64, 0, 0, 64);
+            EdgeRaster other = Scenes.triangle(64, 64, 64, 0, 0, 64);
             other.window(0, 0, 8, 8);
             return other.many();
         });
     }
 
     private static void walkBegins() {
-        EdgeRaster r = small();
+        EdgeRaster r = Scenes.small();
         r.walk();
         CHECK.dueState("P8 weight ahead of the first place", () -> r.weight(0));
         CHECK.dueState("P8 depth ahead of the first place", r::depth);
@@ -340,7 +323,7 @@ public final class PromisesTest {
     }
 
     private static void nextGoesRowByRow() {
-        EdgeRaster r = small();
+        EdgeRaster r = Scenes.small();
         r.walk();
         int[] places = {0, 1, 2, 65536, 65537, 131072, -1, -1, -1};
         for (int place : places) {
@@ -352,7 +335,7 @@ public final class PromisesTest {
         for (int place : inWindow) {
             CHECK.due("P9 next in a window", place, r::next);
         }
-        EdgeRaster far = triangle(FAR, FAR, BACK, FAR, FAR, BACK);
+        EdgeRaster far = Scenes.triangle(FAR, FAR, BACK, FAR, FAR, BACK);
         far.window(1021, 1022, 3, 2);
         far.walk();
         int[] last = {65536 * 1022 + 1021, 65536 * 1022 + 1022, 65536 * 1022 + 1023,
@@ -360,14 +343,14 @@ public final class PromisesTest {
         for (int place : last) {
             CHECK.due("P9 next far off", place, far::next);
         }
-        EdgeRaster gap = triangle(8, 100, 120, 8, 120, 20);
+        EdgeRaster gap = Scenes.triangle(8, 100, 120, 8, 120, 20);
         gap.window(0, 0, 10, 10);
         gap.walk();
         int count = 0;
         int before = -1;
         for (int place = gap.next(); place != EdgeRaster.NONE && count < 100; place = gap.next()) {
             int now = place;
-            CHECK.due("P9 place is covered", 1, () -> covered(gap, now % 65536, now / 65536));
+            CHECK.due("P9 place is covered", 1, () -> Scenes.covered(gap, now % 65536, now / 65536));
             int earlier = before;
             CHECK.due("P9 places rise", 1, () -> now > earlier ? 1 : 0);
             before = place;
@@ -377,19 +360,19 @@ public final class PromisesTest {
     }
 
     private static void weightsOfCorners() {
-        EdgeRaster r = triangle(8, 8, 72, 8, 8, 136);
+        EdgeRaster r = Scenes.triangle(8, 8, 72, 8, 8, 136);
         r.window(0, 0, 8, 8);
         r.walk();
         dueWeights("P10 at corner 0", r, 0, 64 * 128, 0, 0);
         dueWeights("P10 beside corner 0", r, 1, 48 * 128, 16 * 128, 0);
         // Turned: the weights stay those of the corners across from the edges.
-        EdgeRaster turned = triangle(8, 8, 8, 136, 72, 8);
+        EdgeRaster turned = Scenes.triangle(8, 8, 8, 136, 72, 8);
         turned.window(0, 0, 8, 8);
         CHECK.due("P10 turned area", -64 * 128, turned::area);
         turned.walk();
         dueWeights("P10 turned, at corner 0", turned, 0, 64 * 128, 0, 0);
         dueWeights("P10 turned, beside corner 0", turned, 1, 48 * 128, 0, 16 * 128);
-        EdgeRaster great = triangle(BACK, BACK, FAR, BACK, FAR, FAR);
+        EdgeRaster great = Scenes.triangle(BACK, BACK, FAR, BACK, FAR, FAR);
         great.window(1022, 0, 1, 1);
         great.walk();
         dueWeights("P10 great", great, 1022, 32767L * 23, 32767L * (16360 - 8), 32767L * (8 + 16384));
@@ -403,7 +386,7 @@ public final class PromisesTest {
     }
 
     private static void weightRefusals() {
-        EdgeRaster r = small();
+        EdgeRaster r = Scenes.small();
         int[] wrong = {-1, 3, Integer.MIN_VALUE, Integer.MAX_VALUE};
         for (int j : wrong) {
             CHECK.dueArgument("P10 weight(" + j + ") without walk", () -> r.weight(j));
@@ -456,7 +439,7 @@ public final class PromisesTest {
     }
 
     private static void depthRefusals() {
-        EdgeRaster r = small();
+        EdgeRaster r = Scenes.small();
         CHECK.dueState("P11 depth without walk", r::depth);
         r.walk();
         CHECK.dueState("P11 depth, none came yet", r::depth);
@@ -484,7 +467,8 @@ public final class PromisesTest {
 
     private static void valuesAsSeen() {
         CHECK.due("P12 at with one Q", 50 + 50 + 100, () -> halved(1, 1, 1, 100, 200, 400).at(27));
-        CHECK.due("P12 at with a near corner", (2 * 100 + 2 * 200 + 4 * 400) / 8, () -> halved(1, 2, 4, 100, 200, 400).at(27));
+        CHECK.due("P12 at with a near corner", (2 * 100 + 2 * 200 + 4 * 400) / 8,
+                () -> halved(1, 2, 4, 100, 200, 400).at(27));
         CHECK.due("P12 another value", 0, () -> halved(1, 2, 4, 100, 200, 400).at(26));
         CHECK.due("P12 greatest", Integer.MAX_VALUE, () -> halved(1 << 23, 1 << 23, 1 << 23,
                 Integer.MAX_VALUE, Integer.MAX_VALUE, Integer.MAX_VALUE).at(27));
@@ -544,7 +528,7 @@ public final class PromisesTest {
     }
 
     private static void valueRefusals() {
-        EdgeRaster r = small();
+        EdgeRaster r = Scenes.small();
         int[] wrong = {-1, 28, Integer.MIN_VALUE, Integer.MAX_VALUE};
         for (int n : wrong) {
             CHECK.dueArgument("P12 at(" + n + ") without walk", () -> r.at(n));
@@ -565,7 +549,7 @@ public final class PromisesTest {
     }
 
     private static void questionsKeepTheWalk() {
-        EdgeRaster r = small();
+        EdgeRaster r = Scenes.small();
         r.walk();
         r.next();
         r.area();
@@ -576,7 +560,7 @@ public final class PromisesTest {
     }
 
     private static void throwingCallsChangeNothing() {
-        EdgeRaster r = small();
+        EdgeRaster r = Scenes.small();
         r.value(1, 3, 800);
         r.walk();
         r.next();
@@ -586,7 +570,7 @@ public final class PromisesTest {
         CHECK.dueArgument("value(3, 3, 1)", () -> r.value(3, 3, 1));
         CHECK.dueArgument("value(1, 28, 1)", () -> r.value(1, 28, 1));
         CHECK.dueArgument("window(5, 5, 5, 65)", () -> r.window(5, 5, 5, 65));
-        CHECK.dueArgument("covers(0, 2048)", () -> covered(r, 0, 2048));
+        CHECK.dueArgument("covers(0, 2048)", () -> Scenes.covered(r, 0, 2048));
         CHECK.dueArgument("weight(3)", () -> r.weight(3));
         CHECK.dueArgument("at(28)", () -> r.at(28));
         CHECK.due("area after throws", 4096, r::area);
