@@ -14,6 +14,9 @@ public final class FaceTest {
         check.compare("face", due().toString(), shown().toString());
         check.compare("private methods named like public ones", "[]", clashes().toString());
         check.compare("static fields that are not final", "[]", looseStatics().toString());
+        check.compare("classes inside that are shown or not static", "[]", looseClasses().toString());
+        check.compare("class above it", "class java.lang.Object", EdgeRaster.class.getSuperclass().toString());
+        check.due("interfaces", 0, () -> EdgeRaster.class.getInterfaces().length);
         check.end();
     }
 
@@ -77,9 +80,27 @@ public final class FaceTest {
 
     private static Set<String> looseStatics() {
         Set<String> loose = new TreeSet<>();
-        for (Field field : EdgeRaster.class.getDeclaredFields()) {
+        addLooseStatics(EdgeRaster.class, loose);
+        for (Class<?> inside : EdgeRaster.class.getDeclaredClasses()) {
+            addLooseStatics(inside, loose);
+        }
+        return loose;
+    }
+
+    private static void addLooseStatics(Class<?> owner, Set<String> loose) {
+        for (Field field : owner.getDeclaredFields()) {
             if (Modifier.isStatic(field.getModifiers()) && !Modifier.isFinal(field.getModifiers())) {
                 loose.add(field.getName());
+            }
+        }
+    }
+
+    private static Set<String> looseClasses() {
+        Set<String> loose = new TreeSet<>();
+        for (Class<?> inside : EdgeRaster.class.getDeclaredClasses()) {
+            int modifiers = inside.getModifiers();
+            if (Modifier.isPublic(modifiers) || Modifier.isProtected(modifiers) || !Modifier.isStatic(modifiers)) {
+                loose.add(inside.getName());
             }
         }
         return loose;
